@@ -630,7 +630,7 @@ public final class TaskTurns {
             if (kind == NONE) {
                 return NULL;
             }
-            return has(place) ? FINE : INDEX;
+            return place >= 0 && place < BOX_PLACES ? FINE : INDEX;
         }
 
         int put(int wantedKind, int place, int value) {

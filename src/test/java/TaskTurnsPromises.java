@@ -155,6 +155,9 @@ public final class TaskTurnsPromises {
         add(z, PLAIN, 0, ADD, 1, 0);
         z.turn(1);
         due("others' turns do not count", z.act(1, ADD, 1, 0), 1);
+        add(z, PLAIN, 9, GUARD, 0, 0, ADD, 1, 0);
+        z.turn(1);
+        due("a guard is an act done", z.act(2, ADD, 1, 0), NO);
     }
 
     private static void actsOverTheSum() {
@@ -183,8 +186,8 @@ public final class TaskTurnsPromises {
         due("row 0", x.at(0, false, 0), 12);
         due("row 1", x.at(0, false, 1), 0);
         due("row 2", x.at(0, false, 2), 6);
-        TaskTurns y = ran(PLAIN, ADD, 6, 0, ROW, 2, 0, PUT, 1, 0, ROW, 3, 0);
-        due("a new row is all 0", y.at(0, false, 1), 0);
+        TaskTurns y = ran(PLAIN, ADD, 6, 0, ROW, 2, 0, PUT, 0, 0, PUT, 1, 0, ROW, 3, 0);
+        for (int i = 0; i < 3; i++) due("a new row is all 0", y.at(0, false, i), 0);
         dueOf("a new row", y, 0, ROW_LENGTH, 3);
         dueSum("get is not doubled, and goes round", DOUBLE, -4, ADD, MAX, 0, ROW, 1, 0, PUT, 0, 0, GET, 0, 0);
         dueFailure("put without a row", 1, 0, PUT, 0, 0);
@@ -384,6 +387,10 @@ public final class TaskTurnsPromises {
             due("a guard up to the end", y.turn(1), 3);
             dueOf("the end", y, 0, STATE, DONE, NEXT, 3, SUM, 2);
         }
+        TaskTurns later = new TaskTurns();
+        add(later, PLAIN, 0, ADD, 1, 0, ADD, 1, 0, GUARD, 5, 0, ADD, 1, 0);
+        due("a later guard up to the end", later.turn(3), 4);
+        dueOf("the end", later, 0, STATE, DONE, NEXT, 4, SUM, 3);
         TaskTurns last = ran(PLAIN, GUARD, 1, 0);
         dueOf("a guard of nothing behind", last, 0, STATE, DONE);
         due("left", last.count(4), 1);
@@ -419,10 +426,11 @@ public final class TaskTurnsPromises {
         due("its time is over", x.turn(1), 1);
 
         TaskTurns y = new TaskTurns();
-        add(y, CAREFUL, 0, GUARD, 2, 0, WAIT, 9, 0, BY, 0, 0, ADD, 1, 0);
+        add(y, CAREFUL, 0, GUARD, 2, 0, WAIT, 9, 0, BY, 0, 0, ADD, 1, 0, ADD, 1, 0);
         due("a wait, then a failure", y.turn(1), 3);
         dueOf("not all were done", y, 0, STATE, READY, NEXT, 3);
         due("it goes on", y.turn(1), 1);
+        dueOf("that wait is forgotten", y, 0, STATE, READY, NEXT, 4);
     }
 
     private static void sorts() {
@@ -548,6 +556,13 @@ public final class TaskTurnsPromises {
         y.turn(1);
         dueOf("done without acts", y, 0, STATE, DONE, NEXT, 0);
         due("no acts", y.count(2), 0);
+        TaskTurns z = new TaskTurns();
+        add(z, PLAIN, 9, ADD, 1, 0, ADD, 1, 0);
+        z.task(PLAIN, 0);
+        z.turn(2);
+        dueOf("it waited", z, 1, STATE, READY, AGE, 2);
+        z.turn(1);
+        dueOf("it had its turn", z, 1, STATE, DONE, AGE, 0);
     }
 
     private static void letters() {
