@@ -257,7 +257,7 @@ public final class TaskTurns {
         return failure;
     }
 
-    /** Does the act that is next: its failure, which leaves next at that act, or FINE. */
+    /** Does the act that is next, which the caller has seen to be there: its failure, which leaves next, or FINE. */
     private int doAct(Task t, boolean guarded) {
         int a = t.acts.firsts[t.next];
         int b = t.acts.seconds[t.next];
